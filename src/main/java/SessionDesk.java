@@ -368,9 +368,11 @@ public final class SessionDesk {
 
     private void manageFromSight(int s, int key) {
         int e = s * ROWS + key;
+        boolean isOwn = lockedBy[key] == s;
         states[e] = MANAGED;
         for (int what = 0; what < CELLS; what++) {
-            int value = sightCell(s, key, what);
+            int c = key * CELLS + what;
+            int value = isOwn ? writtenCells[c] : rowCells[c];
             entityCells[e * CELLS + what] = value;
             snapshotCells[e * CELLS + what] = value;
         }
@@ -415,26 +417,18 @@ public final class SessionDesk {
     private boolean touch(int s, int key) {
         int source = loadUncounted(s, key);
         boolean isRead = source != FROM_CACHE;
-        if (source != MISSING && modes[BATCH] && loadBatch(s)) {
-            isRead = true;
+        int toTry = source != MISSING && modes[BATCH] ? BATCHED : 0;
+        for (int other = 0; other < ROWS && toTry > 0; other++) {
+            if (states[s * ROWS + other] == PROXY) {
+                toTry--;
+                int otherSource = loadUncounted(s, other);
+                isRead = isRead || otherSource != FROM_CACHE;
+            }
         }
         if (isRead) {
             counts[READS]++;
         }
         return source != MISSING;
-    }
-
-    private boolean loadBatch(int s) {
-        boolean isRead = false;
-        int tried = 0;
-        for (int key = 0; key < ROWS && tried < BATCHED; key++) {
-            if (states[s * ROWS + key] == PROXY) {
-                tried++;
-                int source = loadUncounted(s, key);
-                isRead = isRead || source != FROM_CACHE;
-            }
-        }
-        return isRead;
     }
 
     private void saveChain(int s, int first) {

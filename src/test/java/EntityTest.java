@@ -74,6 +74,13 @@ public final class EntityTest {
             Due.due(4, "read(0, " + key + ", 4), a chain", key < 3 ? 1 : 2, x.read(0, key, 4));
         }
         x.rollback(0);
+        x.make(0, 6, 0, 0, 0);
+        x.make(0, 0, 0, 0, 3);
+        x.make(0, 3, 0, 0, -1);
+        x.persist(0, 6);
+        Due.due(4, "read(0, 0, 4), by row 0", 2, x.read(0, 0, 4));
+        Due.due(4, "read(0, 3, 4), by row 0", 2, x.read(0, 3, 4));
+        x.rollback(0);
         x.make(0, 4, 0, 0, 9);
         x.make(0, 9, 0, 0, 4);
         x.make(0, 5, 0, 0, 5);

@@ -186,6 +186,10 @@ public final class FlushTest {
         Due.due(15, "flush: a NEW one LINKs to it", -7, x.flush(0));
         Due.statements(18, x, "");
         x.rollback(0);
+        persist(x, 0, 1, 0);
+        x.make(0, 0, 0, 0, -1);
+        Due.due(15, "flush: a NEW one LINKs to row 0", -7, x.flush(0));
+        x.rollback(0);
         x.get(0, 4);
         x.write(0, 4, 2, 5);
         x.make(0, 5, 0, 0, -1);
@@ -216,6 +220,12 @@ public final class FlushTest {
         x.mode(0, true);
         Due.due(15, "commit", 0, x.commit(1));
         Due.statements(15, x, "I1 I2 I3 I0");
+        x = new SessionDesk();
+        persist(x, 2, 15, 0);
+        x.make(2, 0, 0, 0, -1);
+        x.mode(0, true);
+        Due.due(15, "commit of a LINK to row 0", 0, x.commit(2));
+        Due.statements(15, x, "I0 I15");
     }
 
     private static void duplicate() {

@@ -155,6 +155,14 @@ public final class LoadTest {
         Due.due(7, "read(1, 4, 4)", 4, x.read(1, 4, 4));
         Due.due(7, "read(1, 6, 4)", 3, x.read(1, 6, 4));
         Due.counts(20, x, reads + 2, hits + 2);
+        x.refer(2, 8);
+        Due.due(5, "get of the only PROXY", 0, x.get(2, 8));
+        Due.counts(20, x, reads + 2, hits + 3);
+        x.refer(2, 15);
+        x.refer(2, 2);
+        Due.due(5, "get(2, 2), beside one that can't be loaded", 0, x.get(2, 2));
+        Due.due(7, "read(2, 15, 4)", 3, x.read(2, 15, 4));
+        Due.counts(20, x, reads + 3, hits + 4);
     }
 
     private static void batchWithHits() {
