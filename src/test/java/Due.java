@@ -53,10 +53,14 @@ final class Due {
     }
 
     static void text(int promise, String what, String want, String got) {
+        text("promise " + promise + ": " + what, want, got);
+    }
+
+    static void text(String what, String want, String got) {
         checked++;
         if (!got.equals(want)) {
             wrong++;
-            System.out.println("promise " + promise + ": " + what + " was '" + got + "', due is '" + want + "'");
+            System.out.println(what + " was '" + got + "', due is '" + want + "'");
         }
     }
 
