@@ -625,6 +625,15 @@ public final class StoreEdgeTest {
             states 0 -> 4M 15M
             counts -> 0 2 2 0 0
             """);
+        Script.sentence("TOUCH", "the two least other PROXIES: a session that has all sixteen", fullStoreRun() + repeat("refer 1 $k", 0, 15) + """
+            mode 2 on
+            read 1 15 0 -> 15
+            states 1 -> 0M 1M 2P 3P 4P 5P 6P 7P 8P 9P 10P 11P 12P 13P 14P 15M
+            counts -> 0 3 16 0 0
+            find 1 1 5 -> 16
+            states 1 -> 0M 1M 2M 3M 4M 5M 6M 7M 8M 9M 10M 11M 12M 13M 14M 15M
+            counts -> 1 3 16 0 0
+            """);
         Script.sentence("TOUCH", "other PROXIES of the session: no other entities are LOADED", """
             stored 3 7 8 -1
             stored 4 7 8 -1
