@@ -18,13 +18,15 @@ public final class LanguageTest {
         "String", "Object", "Math", "Integer", "Long", "System", "Arrays", "clone", "equals", "hashCode", "toString",
         "getClass");
     private static final Set<String> NOT_CALLS = Set.of("if", "for", "while", "switch", "return");
-    private static final Pattern HEAD = Pattern.compile("    (?:public|private) (?:static )?(?:\\w+(?:\\[\\])? )?(\\w+)\\(.*\\) \\{");
+    private static final Pattern HEAD =
+        Pattern.compile("    (?:public|private) (?:static )?(?:\\w+(?:\\[\\])? )?(\\w+)\\(.*\\) \\{");
     private static final Pattern CALL = Pattern.compile("\\b([A-Za-z_]\\w*)\\(");
     private static final int MOST_LINES = 60;
     private static final int MOST_DEEP = 6;
 
     public static void main(String[] args) throws IOException {
-        List<String> lines = Files.readAllLines(SOURCE).stream().map(line -> line.replaceFirst("//.*", "").stripTrailing()).toList();
+        List<String> lines = Files.readAllLines(SOURCE).stream()
+            .map(line -> line.replaceFirst("//.*", "").stripTrailing()).toList();
         words(lines);
         Map<String, List<String>> methods = methods(lines);
         fields(lines, methods);

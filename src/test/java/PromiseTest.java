@@ -262,6 +262,22 @@ public final class PromiseTest {
             get 0 5
             states 0 -> 4M 5M
             """);
+        holds(5, "touched: the two least other proxies with it, all that the cache has not are one READ together", """
+            stored 2 7 8 -1
+            stored 4 7 8 -1
+            stored 5 7 8 -1
+            uncached 2
+            counts -> 1 0 3 1 0
+            mode 2 on
+            refer 0 1
+            refer 0 2
+            refer 0 4
+            refer 0 5
+            get 0 5
+            states 0 -> 1P 2M 4P 5M
+            cache -> 2 4 5
+            counts -> 2 1 3 1 0
+            """);
         holds(5, "OK for one that has its ints", """
             stored 4 7 8 -1
             get 0 4
@@ -581,6 +597,11 @@ public final class PromiseTest {
             merge 0 1 5
             entity 0 5 -> 3 4 5 0
             states 0 -> 4M 5T
+            write 1 4 2 4
+            commit 1 -> OK
+            make 2 4 9 9 -1
+            merge 2 1 4
+            entity 2 4 -> 1 2 4 0
             """);
     }
 
@@ -725,9 +746,16 @@ public final class PromiseTest {
             states 0 -> 4M 6M
             entity 0 4 -> 1 8 -1 1
             locks -> 4:0 5:0 6:0
+            cache -> none
             flush 0
             statements -> none
             """);
+        flushOrders();
+        flushLocked();
+        flushErrors();
+    }
+
+    private static void flushOrders() {
         holds(15, "an order in which it can be written, and -1 for now in a ring", """
             make 0 1 0 0 2
             make 0 2 0 0 3
@@ -751,6 +779,33 @@ public final class PromiseTest {
             commit 0
             statements -> D4 D5 D1 D2 D3
             """);
+        holds(15, "DELETEs in the order of the links of the snapshots", """
+            stored 4 7 8 -1
+            stored 5 7 8 4
+            get 0 4
+            get 0 5
+            write 0 4 2 5
+            write 0 5 2 -1
+            remove 0 4
+            remove 0 5
+            flush 0
+            statements -> D5 D4
+            """);
+        holds(15, "with UP on what a NEW or DIRTY one links to is NEW then, and so on", """
+            stored 4 7 8 -1
+            get 0 4
+            write 0 4 2 0
+            make 0 0 1 2 9
+            make 0 9 1 2 -1
+            make 0 10 1 2 4
+            mode 0 on
+            flush 0
+            statements -> I9 I0 U4
+            states 0 -> 0M 4M 9M 10T
+            """);
+    }
+
+    private static void flushLocked() {
         holds(15, "or the error: BUSY", """
             stored 4 7 8 -1
             get 0 4
@@ -763,6 +818,24 @@ public final class PromiseTest {
             commit 0
             row 4 -> 1 8 -1 1
             """);
+        holds(15, "or the error: BUSY, of an INSERT and of a DELETE", """
+            stored 4 7 8 -1
+            get 0 4
+            get 1 4
+            remove 1 4
+            write 0 4 0 1
+            make 0 5 1 2 -1
+            persist 0 5
+            flush 0
+            make 2 5 1 2 -1
+            persist 2 5
+            flush 2 -> BUSY
+            flush 1 -> BUSY
+            statements -> none
+            """);
+    }
+
+    private static void flushErrors() {
         holds(15, "or the error: STALE", """
             stored 4 7 8 -1
             get 0 4
@@ -773,9 +846,28 @@ public final class PromiseTest {
             flush 1 -> STALE
             states 1 -> BROKEN
             """);
-        holds(15, "or the error: UNSAVED", "make 0 1 0 0 2\nmake 0 2 0 0 -1\npersist 0 1\nflush 0 -> UNSAVED\nstates 0 -> BROKEN\n");
-        holds(15, "or the error: FOREIGN", "make 0 1 0 0 2\npersist 0 1\nflush 0 -> FOREIGN\nstates 0 -> BROKEN\nlocks -> none\n");
-        holds(15, "or the error: DUPLICATE", "stored 1 0 0 -1\nmake 0 1 0 0 -1\npersist 0 1\nflush 0 -> DUPLICATE\nstates 0 -> BROKEN\n");
+        holds(15, "or the error: UNSAVED", """
+            make 0 1 0 0 2
+            make 0 2 0 0 -1
+            persist 0 1
+            flush 0 -> UNSAVED
+            states 0 -> BROKEN
+            """);
+        holds(15, "or the error: FOREIGN", """
+            make 0 1 0 0 2
+            persist 0 1
+            flush 0 -> FOREIGN
+            states 0 -> BROKEN
+            locks -> none
+            """);
+        holds(15, "or the error: FOREIGN, by a link to row 0", "make 0 1 0 0 0\npersist 0 1\nflush 0 -> FOREIGN\n");
+        holds(15, "or the error: DUPLICATE", """
+            stored 1 0 0 -1
+            make 0 1 0 0 -1
+            persist 0 1
+            flush 0 -> DUPLICATE
+            states 0 -> BROKEN
+            """);
     }
 
     private static void promise16() {

@@ -16,7 +16,8 @@ public final class ReadmeTest {
             Matcher call = LINE.matcher(line);
             if (call.matches()) {
                 calls++;
-                Due.text("README.md: " + line, due(call.group(3), call.group(4) != null), answer(desk, call.group(1), call.group(2)));
+                String due = due(call.group(3), call.group(4) != null);
+                Due.text("README.md: " + line, due, answer(desk, call.group(1), call.group(2)));
             } else {
                 Due.text("README.md: a call without its answer", "", line.startsWith("desk.") ? line : "");
             }
