@@ -35,7 +35,8 @@ public final class ModelTest {
     private static boolean run(int run, int[] errors) {
         SessionDesk x = new SessionDesk();
         Model m = new Model();
-        int rows = 2 + pick(15);
+        // With few rows the same ones are deleted, inserted again and linked in rings far more often.
+        int rows = run % 2 == 0 ? 2 + pick(15) : 1 + pick(4);
         List<String> told = new ArrayList<>();
         for (int n = 0; n < CALLS; n++) {
             int name = pickName();

@@ -756,6 +756,16 @@ public final class PromiseTest {
     }
 
     private static void flushOrders() {
+        holds(15, "INSERTs: those left that link to none of those left, also by a link to row 0", """
+            make 0 0 1 1 3
+            make 0 2 1 1 0
+            make 0 3 1 1 -1
+            persist 0 0
+            persist 0 2
+            persist 0 3
+            flush 0
+            statements -> I3 I0 I2
+            """);
         holds(15, "an order in which it can be written, and -1 for now in a ring", """
             make 0 1 0 0 2
             make 0 2 0 0 3
@@ -778,6 +788,20 @@ public final class PromiseTest {
             remove 0 5
             commit 0
             statements -> D4 D5 D1 D2 D3
+            """);
+        holds(15, "UPDATEs of all that were inserted with -1 for now, in the order in which they were inserted", """
+            make 0 1 0 0 9
+            make 0 9 0 0 1
+            make 0 2 0 0 8
+            make 0 8 0 0 2
+            persist 0 1
+            persist 0 2
+            persist 0 8
+            persist 0 9
+            commit 0
+            statements -> I1 I9 I2 I8 U1 U2
+            row 1 -> 0 0 9 1
+            row 2 -> 0 0 8 1
             """);
         holds(15, "DELETEs in the order of the links of the snapshots", """
             stored 4 7 8 -1
@@ -1004,6 +1028,26 @@ public final class PromiseTest {
             row 4 6 -> 0
             row 5 4 -> 0
             row 5 5 -> 2
+            """);
+        holds(19, "of a committed row, also while a ring is inserted again in its place", """
+            stored 2 3 4 -1
+            stored 1 1 2 2
+            get 0 1
+            get 0 2
+            remove 0 1
+            remove 0 2
+            flush 0
+            make 0 1 5 6 2
+            make 0 2 7 8 1
+            persist 0 1
+            persist 0 2
+            flush 0
+            statements -> I1 I2 U1
+            row 1 -> 1 2 2 0
+            row 2 -> 3 4 -1 0
+            entity 0 1 -> 5 6 2 1
+            rollback 0
+            row 1 -> 1 2 2 0
             """);
         holds(19, "NO + BASE if it is not there, and for others", """
             stored 4 7 8 4
